@@ -30,6 +30,8 @@ final class Model {
         List<int[]> days = new ArrayList<>();
         List<int[][]> daySaved = new ArrayList<>();
         int[][] owed = new int[5][5];
+        int[][] walksFrom = new int[7][];
+        int[][] heardFrom = new int[7][];
         int[] raidAt = null;
         boolean raidOfTwo;
         boolean raidKept;
@@ -48,6 +50,8 @@ final class Model {
             }
             w.watchers.addAll(watchers);
             w.cellars.addAll(cellars);
+            w.walksFrom = walksFrom;
+            w.heardFrom = heardFrom;
             w.near = near;
             w.quiet = quiet;
             w.pass = pass;
@@ -322,8 +326,17 @@ final class Model {
         return now.goods.get(goodsOf(s))[what];
     }
 
-    /** Streets are tried again and again till nothing is shorter. */
+    /** Kept with the streets, which never change in a pavement. */
     int distance(int a, int b, boolean heard) {
+        int[][] known = heard ? now.heardFrom : now.walksFrom;
+        if (known[a] == null) {
+            known[a] = distances(a, heard);
+        }
+        return known[a][b];
+    }
+
+    /** Streets are tried again and again till nothing is shorter. */
+    private int[] distances(int a, boolean heard) {
         int[] d = new int[corners()];
         Arrays.fill(d, FAR);
         d[a] = 0;
@@ -341,7 +354,7 @@ final class Model {
                 }
             }
         }
-        return d[b];
+        return d;
     }
 
     static long orNone(int d) {

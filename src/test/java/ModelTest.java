@@ -424,7 +424,7 @@ public final class ModelTest {
 
     // The model looks at all 7 to the power of sellers: only now and then with many.
     private void callRestsOfFew() {
-        if (random.nextInt(m.sellers() > 3 ? 120 : 10) == 0) {
+        if (random.nextInt(m.sellers() > 3 ? 40 : 4) == 0) {
             int i = random.nextBoolean() ? -1 : about(20);
             same("rests(" + i + ")", x.rests(i), m.rests(i));
         }

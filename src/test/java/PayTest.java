@@ -110,6 +110,11 @@ public final class PayTest {
         Checks.due("8 by 10 is 0", alike.stored(-1), 0);
         Checks.due("the first of several", alike.stored(0), 1);
         Checks.due("the first of several", alike.stored(1), 3);
+        Checks.due("a free cellar, but nobody for it", alike.stored(2), Checks.NONE);
+        StringsSheet full = Checks.on("corner 1;goods 1 1 0;" + "seller 0 0;".repeat(5) + "cellar 0 0;".repeat(6));
+        Checks.due("five in six", full.stored(4), 4);
+        Checks.due("no sixth seller", full.stored(5), Checks.NONE);
+        Checks.due("no such seller", full.stored(Integer.MAX_VALUE), Checks.NONE);
         StringsSheet none = Checks.on("corner 1;goods 1 1 0;");
         Checks.due("nobody", none.stored(-1), 0);
         Checks.due("nobody", none.stored(0), Checks.NONE);

@@ -51,8 +51,19 @@ public final class ReadingTest {
         x.feed(0x787878783b676f6fL, 4);
         x.feed(0x6473203920313b00L >> 8, 7);
         Checks.due("corner 5;goods 9 1;", x.pavement(), Checks.NOT - 100 - 18);
+        bytesReadBeforeAreGone(x);
         x.feed(-1, 1);
         Checks.due("byte 255", x.pavement(), Checks.NOT - 100);
+    }
+
+    private static void bytesReadBeforeAreGone(StringsSheet x) {
+        Checks.feed(x, "corner 5;goods 2 9 33;seller 0 0;");
+        x.pavement();
+        Checks.due("a number at the end", placeOf(x, "corner 5;goods 2 9 3"), 20);
+        Checks.feed(x, "corner 5;goods 2 9 33;seller 0 0;");
+        x.pavement();
+        Checks.due("a name at the end", placeOf(x, "corner 5;goods 2 9 33;selle"), 22);
+        Checks.due("two texts were read", x.count(4), 1);
     }
 
     private static long placeOf(StringsSheet x, String text) {
@@ -98,6 +109,8 @@ public final class ReadingTest {
         faultIn("goods 1 1 1;", 0, 1);
         faultIn("corners 5;", 0, 1);
         faultIn("corne 5;", 0, 1);
+        faultIn("xorner 5;", 0, 1);
+        faultIn("cornerz 5;", 0, 1);
         faultIn("Corner 5;", 0, 1);
         faultIn("corNer 5;", 0, 1);
         faultIn("5", 0, 1);

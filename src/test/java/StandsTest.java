@@ -4,6 +4,7 @@ public final class StandsTest {
         scores();
         theLaw();
         atRestAndSettled();
+        manyAtOneCorner();
         onesOwnCornerMayBeUnlawful();
         restsAreAsTheyAreFoundByMoving();
         refusals();
@@ -82,6 +83,23 @@ public final class StandsTest {
         Checks.due("settled", y.settle(), 1);
         Checks.due("the first one", y.seller(0, 1), 1);
         Checks.due("the second one", y.seller(1, 1), 2);
+    }
+
+    private static void manyAtOneCorner() {
+        String sellers = "goods 1 1 1;" + "seller 0 1;".repeat(5);
+        StringsSheet all = Checks.on("corner 99;corner 19;" + sellers);
+        Checks.due("a fifth of 99 is more than 19", all.rests(-1), 1);
+        Checks.due("all at 0", all.rests(0), 0);
+        StringsSheet four = Checks.on("corner 99;corner 22;" + sellers);
+        Checks.due("a fifth of 99 is less than 22", four.rests(-1), 5);
+        int weight = 1;
+        for (int k = 0; k < 5; k++) {
+            Checks.due("one of them at 1", four.rests(k), weight);
+            weight *= 7;
+        }
+        Checks.due("they find one of these", four.settle(), 1);
+        Checks.due("the last one stays", four.seller(4, 1), 1);
+        Checks.due("the fourth one goes", four.seller(3, 1), 0);
     }
 
     private static void onesOwnCornerMayBeUnlawful() {
