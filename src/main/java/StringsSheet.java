@@ -1155,7 +1155,7 @@ public final class StringsSheet {
         }
 
         int lossOf(int seller) {
-            return worthOf(seller) + fineOf(seller);
+            return worth[goodsOf[seller]] + fine[goodsOf[seller]];
         }
     }
 
