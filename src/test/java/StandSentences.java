@@ -144,8 +144,8 @@ final class StandSentences {
         }
     }
 
-    // NONE cannot be reached: of one goods all lose alike, so that each move makes one sum greater,
-    // that of 60 times EARNS by 1, by 2 and so on up to how many stand there, less what is feared.
+    // No town is known that needs 40 rounds, so NONE has no test: of one goods all lose alike, so that each move makes one
+    // sum greater, that of 60 times EARNS by 1, by 2 and so on up to how many stand there, less what is feared.
     private static void settled() {
         Sentence.says(0, "SETTLED: SELLERS by numbers, round by round, each goes to the CORNER of the greatest SCORE (of "
             + "several the least) at which it MAY stand, if that is more than it has; till a round in which none moves, 40 "
