@@ -12,6 +12,7 @@ public final class RaidsTest {
         fromTwoSides();
         refusals();
         whatARaidDidStays();
+        whatARaidSavedStays();
         whistlesForNothing();
         daysAreKept();
         Checks.end();
@@ -129,6 +130,23 @@ public final class RaidsTest {
         x.watch(0, 3);
         after(x, 0, Checks.NONE, 4, 2, 0);
         Checks.due("lost", x.after(-1, 4), 80);
+    }
+
+    /** As the document is read here: a day keeps what was saved when the raid walked. */
+    private static void whatARaidSavedStays() {
+        StringsSheet x = Checks.on(LINE + "seller 0 1;watcher 0;law 0 5 2;");
+        Checks.due("warned in time", Checks.raid(x, 0, 1), 0);
+        x.watch(0, 3);
+        x.keep();
+        Checks.due("saved by a watcher who left later", x.saved(0, 0), 80);
+        Checks.due("caught", Checks.raid(x, 0, 1), 1);
+        x.watch(0, 0);
+        x.keep();
+        Checks.due("saved nothing by one who came later", x.saved(0, 0), 80);
+        Checks.due("warned in time", Checks.raid(x, 0, 1), 0);
+        x.goes(0, 4);
+        x.keep();
+        Checks.due("saved for a seller who went later", x.saved(0, 0), 160);
     }
 
     private static void whistlesForNothing() {
